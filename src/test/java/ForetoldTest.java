@@ -79,6 +79,12 @@ public final class ForetoldTest {
         // 20, heard in the first hour and not above 20, then three less in each of seven.
         x = Due.town("d0,0;g20,0;a0,0;r0;r1;r1;r1;r1;r1;r1;r1;");
         Due.due("garrison", x.wakes(0), 8);
+        x = Due.town("d0,0;a15,0;t1,0;r0;r1;r1;r1;");
+        Due.due("wakes at the last", x.wakes(0), 60);
+        Due.due("alarm at the last", x.alarm(), 60);
+        x.lull(0, 1);
+        Due.due("wakes too late", x.wakes(0), NONE);
+        Due.due("alarm too late", x.alarm(), NONE);
     }
 
     private static void tunes() {
@@ -134,6 +140,11 @@ public final class ForetoldTest {
         x.bring(2, 3);
         Due.due("of two streets the first, of the beat of the hour", x.shift(1, 0), 11);
         Due.due("only what is more", x.shift(1, 1), 3);
+        x.beat(1, 1);
+        Due.due("none is better than what is more as it is", x.shift(1, 0), NONE);
+        x = Due.town("d0,3;t20,60;t20,0;r1;");
+        Due.due("the first beat, the first street", x.shift(30, 0), 0);
+        Due.due("nothing is robbed", x.shift(30, 1), 0);
     }
 
     private static void covers() {
@@ -161,6 +172,7 @@ public final class ForetoldTest {
         }
         Due.due("in 9 hours", x.spread(6, 9), NONE);
         Due.due("in 8 hours", x.spread(6, 8), 0);
+        Due.due("in 30 hours", x.spread(3, 30), 3);
         Due.due("n 0", x.spread(0, 0), BAD);
         Due.due("n 31", x.spread(0, 31), BAD);
         Due.due("street 7", x.spread(7, 1), BAD);
@@ -283,6 +295,8 @@ public final class ForetoldTest {
         // 3 * 16807 leaves 0 by 3: beat 0 of 3 is street 1 of 5; 5 * 16807 leaves 0 by 5, not by 3: loot.
         x = Due.town("d0,9;a9,5;a9,5;a9,5;a9,5;a9,5;r0;r2;r4;");
         Due.due("a beat moves", x.drawn(1, 3, 0), 20);
+        x = Due.town("d0,9;a9,5;a9,9;r0;r0;");
+        Due.due("another beat than that of the hour moves", x.drawn(1, 3, 0), 9);
         x = Due.town("d0,9;a9,0;a9,0;a9,0;a9,0;a9,0;r1;");
         Due.due("loot comes", x.drawn(1, 5, 0), 9);
         Due.due("n 61", x.drawn(61, 1, 0), BAD);

@@ -9,6 +9,7 @@ public final class TapeTest {
         numbersNotAsTold();
         noRoom();
         allStaysBehindAFault();
+        nothingIsReadBehindTheEnd();
         Due.end();
     }
 
@@ -154,5 +155,20 @@ public final class TapeTest {
         Due.feed(x, "d0,0;a0,0;r0;");
         Due.due("a town", x.town(), 1);
         Due.due("the latest fault is still told", x.fault(), 2);
+    }
+
+    /** Bytes of an earlier text are no bytes of this one, nor is there any behind the last of 110. */
+    private static void nothingIsReadBehindTheEnd() {
+        String text = "d1,2;a15,20;t16,30;r1;";
+        for (int end = 0; end < text.length(); end++) {
+            DrumPeace x = Due.town(text);
+            Due.feed(x, text.substring(0, end));
+            Due.due("town cut at " + end, x.town(), -1000100 - end);
+            Due.due("fault", x.fault(), 1);
+        }
+        String longest = "d01,01;" + "a10,10;".repeat(8) + "r00;".repeat(8);
+        Due.due("streets of the longest", Due.town(longest).count(1), 8);
+        faulty(longest + "r00;r00;r00;r00", 95, 3);
+        faulty(longest + ";".repeat(15), 95, 1);
     }
 }
