@@ -712,31 +712,24 @@ public final class DrumPeace {
         }
 
         static int deepAfter(int sort, int deep, boolean hears, int hour) {
-            int next = deep + (hears ? whenHeard(sort, hour) : whenQuiet(sort));
-            return Math.max(0, Math.min(next, MOST_DEEP));
-        }
-
-        private static int whenHeard(int sort, int hour) {
+            int more;
             switch (sort) {
                 case Asks.NURSERY:
-                    return hour % 4 == 0 ? 4 : 2;
-                case Asks.TANNERY:
-                case Asks.PUMP:
-                    return -1;
-                default:
-                    return 2;
-            }
-        }
-
-        private static int whenQuiet(int sort) {
-            switch (sort) {
+                    more = !hears ? -1 : hour % 4 == 0 ? 4 : 2;
+                    break;
                 case Asks.GARRISON:
-                    return -3;
+                    more = hears ? 2 : -3;
+                    break;
+                case Asks.TANNERY:
+                    more = -1;
+                    break;
                 case Asks.PUMP:
-                    return -MOST_DEEP;
+                    more = hears ? -1 : -MOST_DEEP;
+                    break;
                 default:
-                    return -1;
+                    more = hears ? 2 : -1;
             }
+            return Math.max(0, Math.min(deep + more, MOST_DEEP));
         }
 
         int taxOf(int street, int n) {
