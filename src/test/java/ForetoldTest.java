@@ -120,6 +120,8 @@ public final class ForetoldTest {
         x = Due.town("d0,1;a1,0;t9,0;t9,1;r0;");
         Due.due("robbed first", x.tune(1, 1, 0), 2);
         Due.due("how much", x.tune(1, 1, -1), 0);
+        x = Due.town("d0,1;t1,0;t1,0;t1,0;t1,0;t1,0;t1,0;t1,0;t1,0;r0;");
+        Due.due("all eight awake is nothing robbed", x.tune(1, 1, -1), 0);
     }
 
     private static void shifts() {

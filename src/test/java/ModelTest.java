@@ -8,7 +8,7 @@ import java.util.Random;
 
 /** Random runs of 512 calls, ordinary and wild, on DrumPeace and on Model: every answer is the same. */
 public final class ModelTest {
-    private static final int RUNS = 400, CALLS = 512;
+    private static final int RUNS = 400, FULL_TOWNS = 150, CALLS = 512;
     private static final int[] WILD = {Integer.MIN_VALUE, -1000001, -2, -1, 0, 1, 7, 8, 20, 21, 40, 41, 60, 61,
         255, 256, 999, 1000, 999999, 1000000, Integer.MAX_VALUE - 1, Integer.MAX_VALUE};
     /** What the arguments of a call range over when they are not wild; a little wider than allowed. */
@@ -40,6 +40,9 @@ public final class ModelTest {
         for (int seed = 0; seed < RUNS; seed++) {
             new ModelTest(seed).run(seed % 4 == 0);
         }
+        for (int seed = 0; seed < FULL_TOWNS; seed++) {
+            new ModelTest(seed).searchFullTown();
+        }
         Due.end();
     }
 
@@ -57,6 +60,37 @@ public final class ModelTest {
                 Method m = methods.get(random.nextInt(methods.size()));
                 compare(m, arguments(m));
             }
+        }
+    }
+
+    /** Random runs seldom search a town of eight streets while there is much to rob; these always do. */
+    private void searchFullTown() throws Exception {
+        StringBuilder text = new StringBuilder("d");
+        text.append(random.nextInt(4)).append(',').append(1 + random.nextInt(9)).append(';');
+        for (int s = 0; s < 8; s++) {
+            text.append("angtp".charAt(random.nextInt(5))).append(random.nextInt(21)).append(',')
+                .append(random.nextInt(61)).append(';');
+        }
+        for (int b = random.nextInt(8); b >= 0; b--) {
+            text.append('r').append(random.nextInt(8)).append(';');
+        }
+        feedText(text);
+        if (random.nextBoolean()) {
+            compare(method("hours"), 1 + random.nextInt(5));
+        }
+        int k = 2 + random.nextInt(3);
+        int n = 1 + random.nextInt(12);
+        for (int j = -1; j < k; j++) {
+            compare(method("tune"), k, n, j);
+        }
+        for (int what = 0; what < 2; what++) {
+            compare(method("shift"), n, what);
+            compare(method("shift"), 30, what);
+            compare(method("cover"), what);
+        }
+        for (int s = 0; s < 8; s++) {
+            compare(method("spread"), s, n);
+            compare(method("skins"), s, random.nextInt(1000));
         }
     }
 
@@ -119,11 +153,15 @@ public final class ModelTest {
         if (random.nextInt(3) != 0) {
             compare(method("town"));
         }
+        feedText(text);
+        compare(method("fault"));
+    }
+
+    private void feedText(CharSequence text) throws Exception {
         for (int i = 0; i < text.length(); i++) {
             compare(method("feed"), text.charAt(i));
         }
         compare(method("town"));
-        compare(method("fault"));
     }
 
     private void spoil(StringBuilder text) {
