@@ -147,6 +147,10 @@ public final class ForetoldTest {
         x = Due.town("d0,3;t20,60;t20,0;r1;");
         Due.due("the first beat, the first street", x.shift(30, 0), 0);
         Due.due("nothing is robbed", x.shift(30, 1), 0);
+        // Where nobody hears, as little would be robbed, and sooner in order; but there is no such street.
+        x = Due.town("d0,6;n0,60;g0,60;r1;r1;r0;r0;");
+        Due.due("only to a street that there is", x.shift(4, 0), 10);
+        Due.due("how much", x.shift(4, 1), 6);
     }
 
     private static void covers() {
