@@ -16,6 +16,10 @@ final class Due {
         }
     }
 
+    static int asked() {
+        return asked;
+    }
+
     /** An object whose tape has been read as this text. */
     static DrumPeace town(String text) {
         DrumPeace x = new DrumPeace();
