@@ -148,6 +148,7 @@ final class EdgesOfForetold {
             skins(0, 999) = 0 skins(1, 999) = 143 skins(2, 999) = 286 skins(3, 999) = 0 skins(4, 999) = 570""");
         Run.town("d0,0;a1,0;a1,0;r0;").then("skins(0, 0) = 0 skins(0, 999) = 0 skins(1, 999) = 0");
         Run.town("d0,0;a1,60;r0;").then("skins(0, 0) = 0 skins(0, 1) = 1 skins(0, 999) = 999");
+        Run.town("d0,0;a1,0;a1,1;r0;").then("skins(0, 999) = 0 skins(1, 0) = 0 skins(1, 1) = 1 skins(1, 999) = 999");
         // Eight times 124, and 7 over: only the last has none of these.
         Run.town("d0,0;" + "a1,60;".repeat(8) + "r0;").then("skins(0, 999) = 125 skins(6, 999) = 125 skins(7, 999) = 124");
         // As LOOT is now.

@@ -185,6 +185,8 @@ final class EdgesOfGuesses {
             drawn(1, 30, 0) = 11 drawn(1, 15, 0) = 14 drawn(2, 15, 0) = 15 drawn(1, 1, 0) = 14
             round(0) = 0 round(1) = 0""");
         Run.town("d0,9;t9,1;t9,2;t9,4;t9,8;r0;").then("drawn(1, 15, 0) = 13 drawn(1, 3, 0) = 13");
+        // Of one street and one beat the rest is always 0, of an uneven X too.
+        Run.town("d0,9;t9,60;r0;").then("drawn(1, 3, 0) = 0 drawn(60, 3, 0) = 0");
         // 9 gives 151263: the last beat, the last street.
         Run.town("d0,9;" + "t20,0;".repeat(8) + "r0;".repeat(8)).then("""
             hours(7) bring(7, 60) drawn(1, 9, 0) = 0 drawn(1, 1, 0) = 9 round(7) = 0""");

@@ -35,6 +35,10 @@ final class EdgesOfSearches {
         // By the REACH that is now, and by it alone: from street 1 all are heard.
         Run.town("d1,9;t9,60;t9,60;t9,60;r0;").then("""
             tune(1, 12, -1) = 0 tune(1, 12, 0) = 1 reach(0) tune(1, 1, -1) = 18 tune(1, 1, 0) = 0""");
+        // Nowhere are the first and the last of eight streets both heard.
+        Run.town("d3,9;t20,60;" + "t20,0;".repeat(6) + "t20,60;r0;").then("tune(1, 1, -1) = 9 tune(1, 1, 0) = 0");
+        // Eight that wake are not one that is robbed.
+        Run.town("d0,1;" + "t1,0;".repeat(8) + "r0;").then("tune(1, 1, -1) = 0 tune(4, 12, -1) = 0");
         // The round of the eighth street, of eight.
         Run.town("d0,9;" + "t20,0;".repeat(7) + "t20,60;r0;").then("""
             tune(4, 12, -1) = 0 tune(4, 12, 0) = 7 tune(4, 12, 1) = 7 tune(4, 12, 2) = 7 tune(4, 12, 3) = 7""");
@@ -96,6 +100,10 @@ final class EdgesOfSearches {
         Run.town("d0,3;t9,3;t9,3;r0;").then("shift(1, 0) = NONE shift(1, 1) = NONE shift(30, 0) = NONE");
         Run.town("d0,3;t9,3;t9,4;r0;").then("shift(1, 0) = NONE shift(2, 0) = 1 shift(2, 1) = 3");
         Run.town("d0,0;t9,60;t9,60;r0;").then("shift(30, 0) = NONE");
+        // Less than as it is in these hours, whatever was robbed before.
+        Run.town("d0,3;t9,9;t9,9;r0;").then("hours(1) count(6) = 3 shift(1, 0) = NONE shift(1, 1) = NONE");
+        // Beat 0 in no street at all would do as well, and comes first; but it can only be another street.
+        Run.town("d0,6;n0,60;g0,60;r1;r1;r0;r0;").then("shift(4, 0) = 10 shift(4, 1) = 6");
         // The least: street 2 has more to lose than street 1.
         Run.town("d0,9;t9,1;t9,2;t9,3;t9,2;r0;").then("shift(1, 0) = 2 shift(1, 1) = 5");
         // One beat only is moved: two streets cannot both be heard in both hours.
