@@ -174,5 +174,14 @@ final class EdgesOfRows {
             image(0) restore(0) restore(1) = STATE wakes(0) tune(1, 1, 0) kind(0) trace(0) fault()
             status() = 1 row(0, 0, 1) = 1 status() = 0""");
         Run.fresh().then("drop(9) = BAD status() = 0 hours(1) = STATE status() = 0");
+        itemsThatLookLikeRefusals();
+    }
+
+    /** An ITEM may be the very number of a refusal: the call that answers it was not refused. */
+    private static void itemsThatLookLikeRefusals() {
+        Run run = Run.fresh().then("row(0, 2, 1)");
+        for (int number : new int[] {-1000000, -1000001, -1000002, -1000003, -1000011, -1000012, -1000015}) {
+            run.then("drop(1) = NULL status() = 1 set(0, 0, " + number + ") = " + number + " status() = 0");
+        }
     }
 }
